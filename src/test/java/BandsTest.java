@@ -90,6 +90,7 @@ public final class BandsTest {
         CHECKS.due("paint", x.paint(0, 2, 7), 0);
         CHECKS.due("paint", x.paint(0, 2, 4), 7);
         CHECKS.due("COLOUR", x.bandOf(0, 12), 4);
+        CHECKS.due("the least colour", x.paint(0, 1, 0), 0);
         CHECKS.due("COLOUR of another", x.bandOf(0, 11), 0);
         CHECKS.refused(x, "no such band", () -> x.paint(1, 0, 8), 1);
         CHECKS.refused(x, "no such band", () -> x.paint(-1, 0, 0), 1);

@@ -99,6 +99,8 @@ public final class LawsTest {
         DownTheMiddle y = Checks.withBand(4, 0, 2, 0, 0);
         Checks.numbers(y, 0, 0, 39, 39);
         CHECKS.due("39 TWISTS of PLAIN", y.fits(0, 0, 2), 1L << 39);
+        Checks.numbers(y, 0, 0, 41, 41);
+        CHECKS.due("41 TWISTS are not tried", y.fits(0, 0, 2), 0);
     }
 
     private static void toldRefusals() {
@@ -127,6 +129,7 @@ public final class LawsTest {
         DownTheMiddle x = new DownTheMiddle();
         CHECKS.due("make(1, 3)", x.make(1, 3), 103);
         CHECKS.due("make(1, 40)", x.make(1, 40), 140);
+        CHECKS.due("41 TWISTS are not tried", x.make(1, 41), -1);
         CHECKS.due("two strips of 21 TWISTS", x.make(1, 44), 221);
         CHECKS.due("two strips of 39 TWISTS", x.make(1, 80), 239);
         CHECKS.due("more than may be", x.make(1, 82), -1);

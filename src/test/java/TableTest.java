@@ -130,6 +130,7 @@ public final class TableTest {
         fault("twist 0 9999x", 12);
         stands("twist 0 0000", 1);
         stands("paint 0 2 7", 1);
+        stands("paint 0 0 0", 1);
         stands("paint 1 11 7", 1);
         fault("paint 1 12 7", 8);
     }
