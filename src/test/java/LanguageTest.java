@@ -82,8 +82,8 @@ public final class LanguageTest {
 
     private static void source(String source) {
         String code = source.replaceAll("(?s)/\\*.*?\\*/", " ").replaceAll("//[^\n]*", " ");
-        String[] without = {"throw", "catch", "try", "synchronized", "assert", "->", "::", "float", "double", "record",
-            "while", "@", "System.out", "Math.random", "public static void main"};
+        String[] without = {"throw", "catch", "try", "synchronized", "assert", "->", "::", "record", "finally",
+            "@", "System.out", "Math.random", "public static void main"};
         for (String word : without) {
             boolean isWord = Character.isLetter(word.charAt(0));
             Pattern pattern = Pattern.compile(isWord ? "\\b" + Pattern.quote(word) + "\\b" : Pattern.quote(word));
