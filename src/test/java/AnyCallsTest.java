@@ -1,109 +1,83 @@
-import java.lang.reflect.InvocationTargetException;
-import java.lang.reflect.Method;
+import java.util.ArrayList;
 import java.util.Arrays;
-import java.util.Comparator;
+import java.util.List;
+import java.util.Random;
 
-/** Every promise, for any numbers: no call throws, a refused call changes nothing, a repeated run answers the same. */
+/** Every promise in runs of 512 calls by a seed of their own, beside the second program; no call throws. */
 public final class AnyCallsTest {
     private static final Checks CHECKS = new Checks("AnyCallsTest");
-    private static final int RUNS = 400;
-    private static final int CALLS = 512;
-    private static final int[] ODD_NUMBERS = {-2, 100, 159, 160, 161, 9999, 10000, 1000000000,
-        Integer.MIN_VALUE, Integer.MAX_VALUE};
-    private static final String[] TEXTS = {"band 1 3 12 4", "paint 0 0 5;twist 0 9", "left 1;right 0", "band 6 1 5 2;b", "twist"};
-    private static long state;
+    private static final int RUNS = 600;
+    private static final int MOST_CALLS = 512;
+    private static final String[] TEXTS = {"band 1 3 12 4", "paint 0 0 5;twist 0 9", "left 1;right 0",
+        "band 6 1 5 2;b", "twist", "band 5 4 11 0;paint 1 10 7", "right 5;left 3", "twist 2 9999;twist 1 0010"};
+    /** These fill the table or come before what is worth asking: they are drawn more often. */
+    private static final List<String> MORE = List.of("band", "band", "draws", "draws", "show", "show", "image", "act", "paint");
 
-    public static void main(String[] args) throws Exception {
-        Method[] face = DownTheMiddle.class.getDeclaredMethods();
-        face = Arrays.stream(face).filter(m -> java.lang.reflect.Modifier.isPublic(m.getModifiers())).toArray(Method[]::new);
-        Arrays.sort(face, Comparator.comparing(Method::getName));
+    public static void main(String[] args) {
+        List<String> names = new ArrayList<>(Call.names());
+        names.addAll(MORE);
         for (int run = 0; run < RUNS; run++) {
-            state = run;
-            long first = run(face, run);
-            state = run;
-            CHECKS.due("run " + run + " again", run(face, run), first);
+            Random random = new Random(run);
+            CHECKS.sentence("run " + run, () -> tryRun(names, random));
         }
+        CHECKS.sentence("a run without what was refused answers the same", () -> withoutTheRefused(names));
         CHECKS.finish();
     }
 
-    private static int next(int below) {
-        state = state * 6364136223846793005L + 1442695040888963407L;
-        return (int) ((state >>> 33) % below);
-    }
-
-    private static int number() {
-        return next(10) == 0 ? ODD_NUMBERS[next(ODD_NUMBERS.length)] : next(14) - 1;
-    }
-
-    private static long run(Method[] face, int run) throws Exception {
+    private static void tryRun(List<String> names, Random random) {
         DownTheMiddle x = new DownTheMiddle();
-        long sum = 0;
-        for (int call = 0; call < CALLS; call++) {
-            if (next(40) == 0) {
-                Checks.letters(x, next(8), next(4), TEXTS[next(TEXTS.length)]);
-            }
-            Method method = face[next(face.length)];
-            if (method.getName().equals("goes") && next(3) != 0) {
-                continue;
-            }
-            sum = sum * 31 + answer(x, method, run);
-        }
-        return sum;
-    }
-
-    private static long answer(DownTheMiddle x, Method method, int run) throws Exception {
-        Object[] numbers = new Object[method.getParameterCount()];
-        for (int i = 0; i < numbers.length; i++) {
-            boolean isLong = method.getParameterTypes()[i] == long.class;
-            numbers[i] = isLong ? (Object) (number() * 4294967297L) : (Object) number();
-        }
-        long refusalsBefore = refusals(x);
-        long before = told(x);
-        try {
-            long answered = ((Number) method.invoke(x, numbers)).longValue();
-            if (refusals(x) != refusalsBefore) {
-                CHECKS.due("refusals by one " + method.getName(), refusals(x), refusalsBefore + 1);
-                CHECKS.due("told after a refused " + method.getName(), told(x), before);
-                CHECKS.holds(method.getName() + " refuses below 0", answered < 0);
-            }
-            return answered;
-        } catch (InvocationTargetException e) {
-            CHECKS.holds("run " + run + ": " + method.getName() + Arrays.toString(numbers) + " threw " + e.getCause(), false);
-            return 0;
+        Paper due = new Paper();
+        for (Call call : anyCalls(names, random)) {
+            CHECKS.due(call.toString(), call.of(x), call.of(due));
         }
     }
 
-    private static long refusals(DownTheMiddle x) {
-        long all = 0;
-        for (int r = 11; r <= 17; r++) {
-            all += x.status(r);
+    private static List<Call> anyCalls(List<String> names, Random random) {
+        List<Call> calls = new ArrayList<>();
+        while (calls.size() < MOST_CALLS) {
+            int choice = random.nextInt(100);
+            if (choice < 2) {
+                calls.addAll(Call.letters(random.nextInt(8), random.nextInt(4), TEXTS[random.nextInt(TEXTS.length)]));
+            } else if (choice < 8) {
+                calls.add(new Call("band", random.nextInt(7), random.nextInt(12), 1 + random.nextInt(12),
+                        random.nextInt(2), random.nextInt(10)));
+            } else {
+                calls.add(anyCall(names.get(random.nextInt(names.size())), random));
+            }
         }
-        return all;
+        return calls.subList(0, MOST_CALLS);
     }
 
-    /** All that can be asked for without being refused, as one number. */
-    private static long told(DownTheMiddle x) {
-        long all = 7;
-        for (int what = 0; what < 5; what++) {
-            all = all * 31 + x.status(what);
+    private static Call anyCall(String name, Random random) {
+        long[][] choices = Numbers.forCall(name);
+        return new Call(name, Arrays.stream(choices).mapToLong(some -> anyOf(some, random)).toArray());
+    }
+
+    /** Of the numbers worth trying mostly a small one, so that a call is not refused each time. */
+    private static long anyOf(long[] some, Random random) {
+        long number = some[random.nextInt(some.length)];
+        for (int k = 0; k < 2 && (number < 0 || number > 6); k++) {
+            number = some[random.nextInt(some.length)];
         }
-        for (int b = 0; b < x.status(0); b++) {
-            for (int what = 0; what < 5; what++) {
-                all = all * 31 + x.bandOf(b, what);
+        return number;
+    }
+
+    private static void withoutTheRefused(List<String> names) {
+        for (int run = RUNS; run < RUNS + 100; run++) {
+            DownTheMiddle x = new DownTheMiddle();
+            DownTheMiddle without = new DownTheMiddle();
+            Paper counting = new Paper();
+            for (Call call : anyCalls(names, new Random(run))) {
+                long[] counts = Told.refusals(counting);
+                call.of(counting);
+                boolean isRefused = !Arrays.equals(counts, Told.refusals(counting));
+                boolean asksOfRefusals = call.name().equals("status") && call.numbers()[0] > 10;
+                boolean mayFault = call.name().equals("table");
+                long answer = call.of(x);
+                if (!asksOfRefusals && (mayFault || !isRefused)) {
+                    CHECKS.due(call.toString(), call.of(without), answer);
+                }
             }
-            for (int i = 0; i < x.bandOf(b, 2); i++) {
-                all = all * 31 + x.bandOf(b, 10 + i);
-            }
         }
-        for (int s = 0; s < 8; s++) {
-            all = all * 31 + x.holds(s);
-            for (int i = 0; i < 160; i++) {
-                all = all * 31 + x.element(s, i);
-            }
-        }
-        for (int i = 0; i < 20; i++) {
-            all = all * 31 + x.trace(i);
-        }
-        return all;
     }
 }

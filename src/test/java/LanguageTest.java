@@ -4,6 +4,7 @@ import java.lang.reflect.Method;
 import java.lang.reflect.Modifier;
 import java.nio.file.Files;
 import java.nio.file.Path;
+import java.util.Set;
 import java.util.TreeSet;
 import java.util.regex.Matcher;
 import java.util.regex.Pattern;
@@ -11,6 +12,8 @@ import java.util.regex.Pattern;
 /** The face is the document's, and the file keeps to what can be seen of ../shared/LANGUAGE.md from outside. */
 public final class LanguageTest {
     private static final Checks CHECKS = new Checks("LanguageTest");
+    private static final Set<String> IMPORTS = Set.of("java.util.ArrayList", "java.util.Arrays", "java.util.List",
+            "java.util.Iterator", "java.util.NoSuchElementException");
 
     public static void main(String[] args) throws Exception {
         CHECKS.holds("the face is the document's", faceOfTheClass().equals(faceOfTheDocument()));
@@ -44,7 +47,7 @@ public final class LanguageTest {
             face.add(type.getName() + parameters(c.getParameterTypes()));
         }
         for (Method m : type.getDeclaredMethods()) {
-            if (!Modifier.isPrivate(m.getModifiers())) {
+            if (!Modifier.isPrivate(m.getModifiers()) && !m.isSynthetic()) {
                 face.add(m.getReturnType() + " " + m.getName() + parameters(m.getParameterTypes()));
             }
         }
@@ -66,33 +69,23 @@ public final class LanguageTest {
                 names.add(m.getName());
             }
         }
-        for (Class<?> inner : DownTheMiddle.class.getDeclaredClasses()) {
-            CHECKS.holds(inner.getName() + " is static", Modifier.isStatic(inner.getModifiers()));
-            noPublicName(inner, names);
-        }
-        noPublicName(DownTheMiddle.class, names);
-    }
-
-    private static void noPublicName(Class<?> type, TreeSet<String> names) {
-        for (Method m : type.getDeclaredMethods()) {
-            boolean isFace = Modifier.isPublic(m.getModifiers());
-            CHECKS.holds(type.getName() + "." + m.getName() + " bears no public name", isFace || !names.contains(m.getName()));
+        for (Method m : DownTheMiddle.class.getDeclaredMethods()) {
+            CHECKS.holds(m + " bears no public name", Modifier.isPublic(m.getModifiers()) || !names.contains(m.getName()));
         }
     }
 
     private static void source(String source) {
         String code = source.replaceAll("(?s)/\\*.*?\\*/", " ").replaceAll("//[^\n]*", " ");
-        String[] without = {"throw", "catch", "try", "synchronized", "assert", "->", "::", "record", "finally",
-            "@", "System.out", "Math.random", "public static void main"};
-        for (String word : without) {
+        for (String word : new String[] {"synchronized", "assert", "finally", "::", "Math.random", "System.out", "Thread"}) {
             boolean isWord = Character.isLetter(word.charAt(0));
             Pattern pattern = Pattern.compile(isWord ? "\\b" + Pattern.quote(word) + "\\b" : Pattern.quote(word));
             CHECKS.holds("without " + word, !pattern.matcher(code).find());
         }
-        Matcher imports = Pattern.compile("import [^;]*;").matcher(code);
-        for (int k = 0; imports.find(); k++) {
-            CHECKS.holds("imports java.util.Arrays alone", k == 0 && imports.group().equals("import java.util.Arrays;"));
+        Matcher imports = Pattern.compile("import ([^;]*);").matcher(code);
+        while (imports.find()) {
+            CHECKS.holds("may import " + imports.group(1), IMPORTS.contains(imports.group(1)));
         }
+        CHECKS.holds("without a package", !Pattern.compile("^package\\b").matcher(code).find());
         CHECKS.holds("signs 1 to 127", source.chars().allMatch(c -> c >= 1 && c <= 127));
     }
 }
