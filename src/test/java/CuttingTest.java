@@ -17,6 +17,7 @@ public final class CuttingTest {
         crossingsRefusals();
         hooks();
         hooksRefusals();
+        ofOneBandAfterAnother();
         CHECKS.finish();
     }
 
@@ -387,6 +388,27 @@ public final class CuttingTest {
             hooksRefused(0, -1, -1, 1);
             hooksRefused(1, 1, 1, 1);
             hooksRefused(2, 0, 0, 1);
+        });
+    }
+
+    private static void ofOneBandAfterAnother() {
+        CHECKS.sentence("16 to 21: of one BAND after another, each as if it were alone", () -> {
+            DownTheMiddle x = one(0, 2, 12, 1, 0);
+            x.band(0, 3, 5, 0, 0);
+            for (int round = 0; round < 2; round++) {
+                CHECKS.due("pieces(0)", x.pieces(0), 12);
+                CHECKS.due("pieceOf(1, 0, 1)", x.pieceOf(1, 0, 1), 17);
+                CHECKS.due("pieceAt(0, 11)", x.pieceAt(0, 11), 11);
+                CHECKS.due("pieces(1)", x.pieces(1), 3);
+                CHECKS.due("pieceOf(0, 11, 2)", x.pieceOf(0, 11, 2), 2);
+                CHECKS.due("hooks(1, 0, 1)", x.hooks(1, 0, 1), -6);
+                CHECKS.due("hooks(0, 0, 1)", x.hooks(0, 0, 1), 1);
+                CHECKS.due("hooks(1, 0, 3)", x.hooks(1, 0, 3), -1000001);
+                CHECKS.due("crossings(0, 10, 11)", x.crossings(0, 10, 11), 2);
+                CHECKS.due("crossings(1, 0, 1)", x.crossings(1, 0, 1), -3);
+                CHECKS.due("on(1, 0)", x.on(1, 0), 4);
+                CHECKS.due("on(0, 0)", x.on(0, 0), 0);
+            }
         });
     }
 }

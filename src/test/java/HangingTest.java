@@ -13,6 +13,7 @@ public final class HangingTest {
         painted();
         repaint();
         worn();
+        ofOneBandAfterAnother();
         refusals();
         CHECKS.finish();
     }
@@ -152,6 +153,43 @@ public final class HangingTest {
             CHECKS.due("even", one(4, 2, 12, 0, 0).worn(0), 0);
             CHECKS.due("no TWISTS", one(0, 0, 1, 0, 0).worn(0), 0);
             CHECKS.due("two STRIPS each", one(0, 1, 12, 0, 0).worn(0), 0);
+        });
+    }
+
+    private static void hangs(DownTheMiddle x, int band, int allHooks, int groups, int unhook, int worn) {
+        CHECKS.due("allHooks(" + band + ")", x.allHooks(band), allHooks);
+        CHECKS.due("groups(" + band + ")", x.groups(band), groups);
+        CHECKS.due("unhook(" + band + ")", x.unhook(band), unhook);
+        CHECKS.due("worn(" + band + ")", x.worn(band), worn);
+    }
+
+    private static void ofOneBandAfterAnother() {
+        CHECKS.sentence("22 to 27: of one BAND after another, each as if it were alone", () -> {
+            DownTheMiddle x = one(0, 2, 12, 1, 0);
+            x.band(0, 0, 12, 0, 0);
+            x.band(0, 3, 5, 0, 0);
+            x.band(0, 1, 2, 0, 0);
+            for (int round = 0; round < 2; round++) {
+                hangs(x, 0, 66, 1, 2047, 0);
+                hangs(x, 1, 0, 12, 0, 0);
+                hangs(x, 0, 66, 1, 2047, 0);
+                hangs(x, 2, 12, 1, 3, 4);
+                hangs(x, 3, 0, 1, 0, 0);
+                hangs(x, 1, 0, 12, 0, 0);
+            }
+        });
+        CHECKS.sentence("22 to 27: of one BAND before and after it is changed", () -> {
+            DownTheMiddle x = one(0, 2, 5, 1, 0);
+            hangs(x, 0, 10, 1, 15, 0);
+            x.twist(0, 0);
+            hangs(x, 0, 0, 5, 0, 0);
+            x.twist(0, 3);
+            hangs(x, 0, 12, 1, 3, 4);
+            x.goes();
+            x.band(4, 1, 3, 0, 0);
+            hangs(x, 0, 0, 3, 0, 7);
+            x.turn(0);
+            hangs(x, 0, 3, 1, 3, 7);
         });
     }
 

@@ -10,6 +10,7 @@ public final class TableTest {
     public static void main(String[] args) {
         items();
         itemsInTurn();
+        textsInTurn();
         numbersThatMayBe();
         numbersThatMayNotBe();
         digits();
@@ -141,6 +142,52 @@ public final class TableTest {
             DownTheMiddle x = new DownTheMiddle();
             CHECKS.due("table", Checks.table(x, "band 0 0 1 0;band 1 1 2 1;band 2 2 3 2;band 3 3 4 3;band 4 4 5 4;band 5 5 6 5;right 5"), 7);
             bandIs(x, 5, 5, 5, 6, 1, 5);
+            CHECKS.due("status(0)", x.status(0), 6);
+        });
+    }
+
+    private static void textsInTurn() {
+        CHECKS.sentence("14: only the ITEMS of this text, not those of a longer one before it", () -> {
+            DownTheMiddle x = told("left 0;left 1;twist 0 5;right 1;paint 0 0 1;band 0 0 1 0", 6);
+            x.twist(0, 8);
+            x.turn(1);
+            x.paint(0, 0, 2);
+            CHECKS.due("table", Checks.table(x, "right 0"), 1);
+            CHECKS.due("table", Checks.table(x, "left 0;left 1"), 2);
+            CHECKS.due("table", Checks.table(x, "left 0;left 1;left 2;left 2"), 4);
+            CHECKS.due("table", Checks.table(x, "left 0;left 1;left 2;left 2;left 2"), 5);
+            bandIs(x, 0, 0, 8, 3, 0, 0);
+            bandIs(x, 1, 1, 2, 12, 0, 5);
+            CHECKS.due("bandOf(0, 10)", x.bandOf(0, 10), 2);
+            CHECKS.due("status(0)", x.status(0), 3);
+        });
+        CHECKS.sentence("14: not those of a text with a FAULT before it", () -> {
+            DownTheMiddle x = with(TableTest::twoBands, "left 1;twist 0 5;right 1;band 0 0 1 0;x").get();
+            CHECKS.due("table(7)", x.table(7), -6);
+            CHECKS.due("table", Checks.table(x, "left 0"), 1);
+            CHECKS.due("table", Checks.table(x, "left 0;left 0"), 2);
+            CHECKS.due("table", Checks.table(x, "left 0;left 0;left 0"), 3);
+            bandIs(x, 0, 0, 1, 3, 0, 0);
+            bandIs(x, 1, 1, 2, 12, 0, 5);
+            CHECKS.due("status(0)", x.status(0), 2);
+        });
+        CHECKS.sentence("14: over what there is then, not over what a text before it spoke of", () -> {
+            DownTheMiddle x = with(TableTest::twoBands, "band 0 0 12 0;band 0 0 12 0;x").get();
+            CHECKS.due("table(7)", x.table(7), -6);
+            CHECKS.due("table of a BAND that was not told", Checks.table(x, "left 2"), -6);
+            CHECKS.due("fault()", x.fault(), 5);
+            x.goes();
+            CHECKS.due("table of a BAND that has gone", Checks.table(x, "left 1"), -6);
+            CHECKS.due("fault()", x.fault(), 5);
+            CHECKS.due("one of fewer STRIPS in its place", x.band(0, 0, 2, 0, 0), 1);
+            CHECKS.due("table", Checks.table(x, "paint 1 2 1"), -6);
+            CHECKS.due("fault()", x.fault(), 8);
+            CHECKS.due("table", Checks.table(x, "paint 1 1 1"), 1);
+        });
+        CHECKS.sentence("14: there is room for four more BANDS in a second text, too", () -> {
+            DownTheMiddle x = with(TableTest::twoBands, "band 0 0 1 0;band 0 0 1 0;band 0 0 1 0;x").get();
+            CHECKS.due("table(7)", x.table(7), -6);
+            CHECKS.due("table", Checks.table(x, "band 0 0 1 0;band 0 0 1 0;band 0 0 1 0;band 0 0 1 0"), 4);
             CHECKS.due("status(0)", x.status(0), 6);
         });
     }
