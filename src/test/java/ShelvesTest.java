@@ -568,6 +568,15 @@ public final class ShelvesTest {
             saysIs(6, 7, 12, 9, 6, 9);
             saysIs(6, 7, 1, 0, 6, 0);
         });
+        CHECKS.sentence("8: as the BAND is now, not as it was shown", () -> {
+            DownTheMiddle x = Checks.withBand(0, 3, 5, 0, 0);
+            x.show(0, 0);
+            x.twist(0, 8);
+            CHECKS.due("says(0, 0)", x.says(0, 0), 8);
+            x.cut(0, 0);
+            x.twist(0, 1);
+            CHECKS.due("says(0, 0)", x.says(0, 0), 1);
+        });
         CHECKS.sentence("8: of a KIND, or one under it", () -> {
             int[] above = {-1, 0, 0, 1, 0, 2, 4};
             for (int kind = 0; kind < 7; kind++) {
