@@ -597,7 +597,7 @@ public final class DownTheMiddle {
     }
 
     public int image() {
-        for (int b = 0; b < bandCount; b++) {
+        for (int b = 0; b < bandCount && b < MOST_BANDS; b++) {
             imageBands[b].becomeLike(bands[b]);
         }
         imageCount = bandCount;
@@ -610,7 +610,7 @@ public final class DownTheMiddle {
         if (imageCount == NONE) {
             return refuse(WRONG);
         }
-        for (int b = 0; b < imageCount; b++) {
+        for (int b = 0; b < imageCount && b < MOST_BANDS; b++) {
             bands[b].becomeLike(imageBands[b]);
         }
         bandCount = imageCount;
@@ -665,7 +665,7 @@ public final class DownTheMiddle {
 
     private int piecesOfAll() {
         int all = 0;
-        for (int b = 0; b < bandCount; b++) {
+        for (int b = 0; b < bandCount && b < MOST_BANDS; b++) {
             all += laid(bands[b]).count;
         }
         return all;
@@ -1029,7 +1029,7 @@ public final class DownTheMiddle {
                 pieceOfStrip[i] = NONE;
             }
             count = 0;
-            for (int i = 0; i < strips; i++) {
+            for (int i = 0; i < strips && count < MOST_STRIPS; i++) {
                 if (pieceOfStrip[i] == NONE) {
                     followRound(i);
                     count++;
